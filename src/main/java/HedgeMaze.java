@@ -208,7 +208,7 @@ public final class HedgeMaze {
             return NO_SUCH;
         }
         long open = garden.openSides();
-        long bridges = garden.plan.bridgesAmong(open, open);
+        long bridges = garden.plan.bridges(open);
         return what == NONE ? Long.bitCount(bridges) : garden.plan.pick(bridges, what);
     }
 
@@ -873,14 +873,27 @@ public final class HedgeMaze {
             return spread(1, open, MOST_CELLS) == allCells();
         }
 
-        long bridgesAmong(long open, long asked) {
+        /** The cells that hang together with a side's first cell if the side is shut. */
+        int partBeside(int side, long open) {
+            if (side < 0 || side >= sideCount) {
+                return allCells();
+            }
+            return spread(1 << first[side], open & ~bits[side], MOST_CELLS);
+        }
+
+        /** Whether opening a side joins a part with all other cells; all cells need no joining. */
+        boolean joins(int side, int part) {
+            if (part == allCells() || side < 0 || side >= sideCount) {
+                return part == allCells();
+            }
+            return (part >> first[side] & 1) != (part >> other[side] & 1);
+        }
+
+        long bridges(long open) {
             long found = 0L;
             for (int side = 0; side < sideCount; side++) {
-                if (has(open & asked, side)) {
-                    long rest = open & ~bits[side];
-                    if (stepsBetween(1 << first[side], 1 << other[side], rest) == NONE) {
-                        found |= bits[side];
-                    }
+                if (has(open, side) && partBeside(side, open) != allCells()) {
+                    found |= bits[side];
                 }
             }
             return found;
@@ -1007,14 +1020,9 @@ public final class HedgeMaze {
             return before ^ plan.bitOf(told / FROM) ^ plan.bitOf(told % FROM);
         }
 
-        /** To which of some sides the hedge of a side may lawfully go. */
-        long goalsAmong(long someHedges, int from, long asked) {
-            long open = openWith(someHedges);
-            long goals = open & asked;
-            if (isNear) {
-                goals &= plan.sidesNear(from);
-            }
-            return goals & ~plan.bridgesAmong(open | plan.bitOf(from), goals);
+        /** The sides to which a hedge may go by the law, whether or not cells are cut off then. */
+        long sidesByLaw(int from) {
+            return isNear ? plan.sidesNear(from) : plan.allSides;
         }
 
         /** Whether a night is lawful, if the hedges stood there: the numbers of lawful(). */
@@ -1022,13 +1030,14 @@ public final class HedgeMaze {
             if (!plan.has(someHedges, from)) {
                 return 1;
             }
-            if (!plan.has(openWith(someHedges), to)) {
+            long open = openWith(someHedges);
+            if (!plan.has(open, to)) {
                 return 2;
             }
-            if (isNear && !plan.has(plan.sidesNear(from), to)) {
+            if (!plan.has(sidesByLaw(from), to)) {
                 return 3;
             }
-            return goalsAmong(someHedges, from, plan.bitOf(to)) == 0L ? 4 : 0;
+            return plan.joins(from, plan.partBeside(to, open)) ? 0 : 4;
         }
     }
 
@@ -1295,6 +1304,8 @@ public final class HedgeMaze {
         int lastDrawn = NONE;
         /** A row for each depth: one list stands while another is made behind its nights. */
         private final int[][] lists = new int[DEPTHS][MOST_LAWFUL];
+        /** By a side to which a hedge may go: the part beside it then, whatever hedge goes. */
+        private final int[] parts = new int[MOST_SIDES];
 
         /** Lists the lawful nights as nth() orders them, and answers how many there are. */
         int list(Garden garden, long hedges, int depth) {
@@ -1302,15 +1313,17 @@ public final class HedgeMaze {
                 return 0;
             }
             Plan plan = garden.plan;
+            long open = garden.openWith(hedges);
+            for (int to = 0; to < plan.sideCount; to++) {
+                parts[to] = plan.has(open, to) ? plan.partBeside(to, open) : 0;
+            }
             int found = 0;
             for (int from = 0; from < plan.sideCount; from++) {
-                if (plan.has(hedges, from)) {
-                    long goals = garden.goalsAmong(hedges, from, plan.allSides);
-                    for (int to = 0; to < plan.sideCount; to++) {
-                        if (plan.has(goals, to) && found < MOST_LAWFUL) {
-                            lists[depth][found] = FROM * from + to;
-                            found++;
-                        }
+                long goals = plan.has(hedges, from) ? open & garden.sidesByLaw(from) : 0L;
+                for (int to = 0; to < plan.sideCount && goals != 0L; to++) {
+                    if (plan.has(goals, to) && plan.joins(from, parts[to]) && found < MOST_LAWFUL) {
+                        lists[depth][found] = FROM * from + to;
+                        found++;
                     }
                 }
             }
@@ -1337,6 +1350,9 @@ public final class HedgeMaze {
         }
 
         int fewestNights(Garden garden, long goal) {
+            if (!garden.plan.hangsTogether(garden.openWith(goal))) {
+                return NONE;
+            }
             for (int nights = 0; nights <= MOST_NIGHTS_TO; nights++) {
                 if (comesTo(garden, garden.hedges, goal, nights)) {
                     return nights;
@@ -1352,12 +1368,12 @@ public final class HedgeMaze {
             }
             Plan plan = garden.plan;
             for (int from = 0; from < plan.sideCount; from++) {
-                if (plan.has(hedges, from)) {
-                    long asked = worthwhile(plan, goal, from, left - missing);
-                    long goals = garden.goalsAmong(hedges, from, asked);
-                    for (int to = 0; to < plan.sideCount; to++) {
+                boolean isHedge = plan.has(hedges, from);
+                long asked = isHedge ? worthwhile(plan, goal, from, left - missing) : 0L;
+                for (int to = 0; to < plan.sideCount && asked != 0L; to++) {
+                    if (plan.has(asked, to) && garden.judge(hedges, from, to) == 0) {
                         long then = hedges ^ plan.bits[from] ^ plan.bits[to];
-                        if (plan.has(goals, to) && comesTo(garden, then, goal, left - 1)) {
+                        if (comesTo(garden, then, goal, left - 1)) {
                             return true;
                         }
                     }
@@ -1380,6 +1396,10 @@ public final class HedgeMaze {
             Plan plan = garden.plan;
             int lost = garden.gateCells();
             if (days > 1) {
+                // who is held for more days is held for fewer: the dear question may be spared
+                if (heldCells(garden, hedges, steps, days - 1) == 0) {
+                    return 0;
+                }
                 lost |= ~heldBehindNight(garden, hedges, steps, days - 1);
             }
             int all = plan.allCells();
@@ -1397,7 +1417,6 @@ public final class HedgeMaze {
             for (int i = 0; i < many && found != hoped; i++) {
                 long then = garden.hedgesAfter(hedges, listed(days, i));
                 int cells = heldCells(garden, then, steps, 1);
-                // who is held for more days is held for one: the dear question may be spared
                 if (days > 1 && (cells & ~found) != 0) {
                     cells = heldCells(garden, then, steps, days);
                 }
@@ -1419,7 +1438,7 @@ public final class HedgeMaze {
         private boolean opensAll(Garden garden, long open, int start, int depth, int size) {
             Plan plan = garden.plan;
             if (depth >= size || depth >= MOST_OPENINGS) {
-                return plan.bridgesAmong(open, open) == 0L;
+                return plan.bridges(open) == 0L;
             }
             for (int side = start; side < plan.sideCount; side++) {
                 if (plan.has(garden.hedges, side)) {

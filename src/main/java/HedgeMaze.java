@@ -1047,7 +1047,8 @@ public final class HedgeMaze {
         private static final int WORD = 1;
         private static final int NUMBER = 2;
         private static final int SIGN = 3;
-        private static final int STRANGE = 4;
+        private static final int BLANK = 4;
+        private static final int STRANGE = 5;
         private static final int HUGE = 1000;
 
         final Garden draft = new Garden();
@@ -1058,7 +1059,6 @@ public final class HedgeMaze {
         private int kind = END;
         private int tokenStart = 0;
         private int tokenEnd = 0;
-        private int number = 0;
         private int numberPlace = 0;
         private boolean hasLaw = false;
 
@@ -1091,51 +1091,42 @@ public final class HedgeMaze {
             return tape != null && place >= 0 && place < tapeSize ? tape[place] : NONE;
         }
 
-        private static boolean isLetter(int sign) {
-            return sign >= 'a' && sign <= 'z';
-        }
-
-        private static boolean isDigit(int sign) {
-            return sign >= '0' && sign <= '9';
-        }
-
-        private static boolean isBlank(int sign) {
-            return sign == 32 || sign == 10;
+        private static int kindOf(int sign) {
+            if (sign >= 'a' && sign <= 'z') {
+                return WORD;
+            }
+            if (sign >= '0' && sign <= '9') {
+                return NUMBER;
+            }
+            if (sign == 32 || sign == 10) {
+                return BLANK;
+            }
+            return sign == ';' ? SIGN : STRANGE;
         }
 
         /** Goes on to the next token; at the end of the tape it stands at the end's place. */
         private void advance() {
             int at = tokenEnd;
-            while (at < tapeSize && isBlank(byteAt(at))) {
+            while (at < tapeSize && kindOf(byteAt(at)) == BLANK) {
                 at++;
             }
             tokenStart = at;
-            if (at >= tapeSize) {
-                kind = END;
-            } else if (isLetter(byteAt(at))) {
-                kind = WORD;
-                while (at < tapeSize && isLetter(byteAt(at))) {
-                    at++;
-                }
-            } else if (isDigit(byteAt(at))) {
-                kind = NUMBER;
-                at = passDigits(at);
-            } else {
-                kind = byteAt(at) == ';' ? SIGN : STRANGE;
+            kind = at < tapeSize ? kindOf(byteAt(at)) : END;
+            boolean isLong = kind == WORD || kind == NUMBER;
+            int most = isLong ? tapeSize : Math.min(at + 1, tapeSize);
+            while (at < most && kindOf(byteAt(at)) == kind) {
                 at++;
             }
             tokenEnd = at;
         }
 
         /** Numbers far out of all bounds are cut, so that none wraps around into them. */
-        private int passDigits(int start) {
-            int at = start;
-            number = 0;
-            while (at < tapeSize && isDigit(byteAt(at))) {
+        private int numberHere() {
+            int number = 0;
+            for (int at = tokenStart; at < tokenEnd; at++) {
                 number = Math.min(10 * number + byteAt(at) - '0', HUGE);
-                at++;
             }
-            return at;
+            return number;
         }
 
         private boolean isWord(String word) {
@@ -1163,14 +1154,15 @@ public final class HedgeMaze {
             if (faultNumber == 0 && kind != NUMBER) {
                 fail(1, tokenStart);
             }
-            if (faultNumber == 0 && (number < least || number > most)) {
-                fail(2, tokenStart);
-            }
             if (faultNumber != 0) {
                 return least;
             }
-            int taken = number;
+            int taken = numberHere();
             numberPlace = tokenStart;
+            if (taken < least || taken > most) {
+                fail(2, tokenStart);
+                return least;
+            }
             advance();
             return taken;
         }

@@ -231,6 +231,8 @@ public final class PromiseTest {
         spoilt("maze wide 2 long 2 2;", 1, 19);
         spoilt("maze\twide 2 long 2;", 1, 4);
         spoilt("maze wide 2 long 2\r;", 1, 18);
+        spoilt("maze wide 2 long 2;;", 1, 19);
+        spoilt("maze wide 2 long 2;??", 1, 19);
         spoilt(SQUARE + SQUARE, 1, 19);
         spoilt(SQUARE + ";", 1, 19);
         spoilt(SQUARE + "east", 1, 19);
@@ -668,6 +670,12 @@ public final class PromiseTest {
             + "hedge at 0 0 east;hedge at 1 0 east;hedge at 2 0 east;hedge at 3 0 east;");
         nightsTo(four, 3, 36, 37, 38, 0);
         nightsTo(four, NONE, 36, 37, 38, 39);
+        // down a column: only if the hedge ahead goes first, the one behind it comes where it was
+        HedgeMaze column = Checker.told("maze wide 2 long 5;law near;hedge at 0 0 south;"
+            + "hedge at 0 1 south;");
+        nightsTo(column, 2, 4, 7);
+        nightsTo(column, 3, 4, 10);
+        nightsTo(column, NONE, 7, 10);
         Checker.fill(x, 0, 3, 1L << 32);
         due("nights(0)", x.nights(0), -2);
         Checker.fill(x, 0, 0, 256 + 4);

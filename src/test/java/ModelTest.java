@@ -209,8 +209,10 @@ public final class ModelTest {
             } else if (kind < 25) {
                 callAny(CHANGES, small);
             } else if (kind < 29) {
-                fillSlot();
-            } else if (below(4) == 0) {
+                fillSlot(small);
+            } else if (below(2) == 0) {
+                aNight();
+            } else if (below(2) == 0) {
                 lay(below(3) == 0 ? spoiled(text(3, 2, 3)) : small ? text(3, 2, 3) : text(12, 12, 5));
                 readTape();
                 call("end", 0);
@@ -272,8 +274,16 @@ public final class ModelTest {
         }
     }
 
+    private void aNight() {
+        List<Integer> nights = m.now.lines == 0 ? List.of() : m.now.lawful(m.now.on);
+        if (!nights.isEmpty()) {
+            int night = nights.get(below(nights.size()));
+            call("night", night / 100, night % 100);
+        }
+    }
+
     /** A slot has a row that some question can do with: nights, a walk, or where hedges stand. */
-    private void fillSlot() {
+    private void fillSlot(boolean small) {
         int slot = below(4);
         long[] row;
         int width = below(4);
@@ -297,6 +307,16 @@ public final class ModelTest {
         call("row", slot, width, row.length);
         for (int i = 0; i < row.length; i++) {
             call("write", slot, i, below(6) == 0 ? row[i] + (1L << (8 << width)) : row[i]);
+        }
+        if (kind == 0) {
+            call("out", slot, argument('c'), argument('n'));
+        } else if (kind == 3 && small) {
+            call("nights", slot);
+        } else if (kind != 3) {
+            long cell = argument('c');
+            call("walk", slot, cell);
+            call("ends", slot, cell);
+            call("odd", slot, cell, argument('l'), argument('c'), below(2));
         }
     }
 

@@ -91,6 +91,8 @@ public final class PromiseTest {
         row();
         write();
         paste();
+        fullRows();
+        fullTape();
     }
 
     // ---- 1 .. 5 ----
@@ -1243,5 +1245,64 @@ public final class PromiseTest {
         due("ends(0, 0)", x.ends(0, 0), 2);
         due("write(0, 4, 7)", x.write(0, 4, 7), 0);
         due("walk(0, 0), west of 2 is open", x.walk(0, 0), 4);
+    }
+
+    // ---- what is as full as it may be ----
+
+    private void fullRows() {
+        check.about("rows of sixty");
+        HedgeMaze x = Checker.told(HANDLES);
+        long[] steps = new long[60];
+        long[] nights = new long[60];
+        for (int i = 0; i < 60; i++) {
+            steps[i] = i % 2 == 0 ? 1 : 3;
+            nights[i] = i % 2 == 0 ? 5 : 500;
+        }
+        Checker.fill(x, 0, 0, steps);
+        Checker.fill(x, 1, 1, nights);
+        due("walk(0, 1)", x.walk(0, 1), 60);
+        due("ends(0, 1)", x.ends(0, 1), 1);
+        due("walk(0, 0)", x.walk(0, 0), 0);
+        due("odd(0, 1, 0, 1, 0)", x.odd(0, 1, 0, 1, 0), 0);
+        due("walk(1, 0)", x.walk(1, 0), -2);
+        due("out(1, 0, 1)", x.out(1, 0, 1), NONE);
+        due("nights(1)", x.nights(1), -7);
+        due("write(1, 59, 6)", x.write(1, 59, 506), 0);
+        due("out(1, 0, 1)", x.out(1, 0, 1), -5);
+        due("row(2, 1, 60)", x.row(2, 1, 60), 0);
+        due("paste(1, 0, 2, 0, 60)", x.paste(1, 0, 2, 0, 60), 0);
+        due("paste(1, 0, 2, 0, 61)", x.paste(1, 0, 2, 0, 61), -7);
+        due("paste(1, 60, 2, 60, 0)", x.paste(1, 60, 2, 60, 0), 0);
+        due("paste(1, 60, 2, 60, 1)", x.paste(1, 60, 2, 60, 1), -7);
+        due("out(2, 0, 1)", x.out(2, 0, 1), -5);
+    }
+
+    private void fullTape() {
+        check.about("a full tape");
+        HedgeMaze x = new HedgeMaze();
+        String blanks = " ".repeat(1600 - SQUARE.length());
+        Checker.lay(x, SQUARE + blanks);
+        due("count(7)", x.count(7), 1600);
+        due("maze()", x.maze(), 1);
+        Checker.lay(x, blanks + SQUARE);
+        due("maze()", x.maze(), 1);
+        Checker.lay(x, (SQUARE + blanks).substring(0, 1595) + "gates");
+        due("maze()", x.maze(), -4);
+        due("fault(1)", x.fault(1), 1595);
+        x.end(0);
+        Checker.lay(x, (SQUARE + blanks).substring(0, 1596) + "gate");
+        due("maze()", x.maze(), -4);
+        due("fault(1)", x.fault(1), 1600);
+        x.end(0);
+        Checker.lay(x, "maze wide 2 long " + "0".repeat(1581) + "5;");
+        due("maze()", x.maze(), 1);
+        Checker.lay(x, "maze wide 2 long " + "5".repeat(1583));
+        due("maze()", x.maze(), -4);
+        due("fault(0)", x.fault(0), 2);
+        due("fault(1)", x.fault(1), 17);
+        x.end(0);
+        Checker.lay(x, ";".repeat(1600));
+        due("maze()", x.maze(), -4);
+        due("fault(1)", x.fault(1), 0);
     }
 }

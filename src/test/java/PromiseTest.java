@@ -1279,30 +1279,17 @@ public final class PromiseTest {
 
     private void fullTape() {
         check.about("a full tape");
-        HedgeMaze x = new HedgeMaze();
         String blanks = " ".repeat(1600 - SQUARE.length());
+        HedgeMaze x = new HedgeMaze();
         Checker.lay(x, SQUARE + blanks);
         due("count(7)", x.count(7), 1600);
         due("maze()", x.maze(), 1);
-        Checker.lay(x, blanks + SQUARE);
-        due("maze()", x.maze(), 1);
-        Checker.lay(x, (SQUARE + blanks).substring(0, 1595) + "gates");
-        due("maze()", x.maze(), -4);
-        due("fault(1)", x.fault(1), 1595);
-        x.end(0);
-        Checker.lay(x, (SQUARE + blanks).substring(0, 1596) + "gate");
-        due("maze()", x.maze(), -4);
-        due("fault(1)", x.fault(1), 1600);
-        x.end(0);
-        Checker.lay(x, "maze wide 2 long " + "0".repeat(1581) + "5;");
-        due("maze()", x.maze(), 1);
-        Checker.lay(x, "maze wide 2 long " + "5".repeat(1583));
-        due("maze()", x.maze(), -4);
-        due("fault(0)", x.fault(0), 2);
-        due("fault(1)", x.fault(1), 17);
-        x.end(0);
-        Checker.lay(x, ";".repeat(1600));
-        due("maze()", x.maze(), -4);
-        due("fault(1)", x.fault(1), 0);
+        due("count(7)", x.count(7), 0);
+        reads(blanks + SQUARE, 1);
+        reads("maze wide 2 long " + "0".repeat(1581) + "5;", 1);
+        spoilt((SQUARE + blanks).substring(0, 1595) + "gates", 1, 1595);
+        spoilt((SQUARE + blanks).substring(0, 1596) + "gate", 1, 1600);
+        spoilt("maze wide 2 long " + "5".repeat(1583), 2, 17);
+        spoilt(";".repeat(1600), 1, 0);
     }
 }

@@ -51,6 +51,8 @@ public final class GuestEdgesTest extends Sentences {
         each("meet(#)", 3, 2, 3);
         told(SQUARE + "guest at 1 1;");
         each("meet(#)", 3, 0, 0);
+        told(SQUARE + "guest at 0 0;");
+        each("meet(#)", 0, 0, 0);
         told(SQUARE + "guest at 1 0;".repeat(5));
         each("meet(#)", 1, 0, 0);
         told(SNAKE + "guest at 0 0;guest at 4 4;");

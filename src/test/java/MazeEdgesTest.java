@@ -166,6 +166,19 @@ public final class MazeEdgesTest extends Sentences {
         due("letter(0)", NONE);
         due("gate(0)", NONE);
         due("lawful(0, 4)", -2);
+        // a lesser one behind a greater: what it has not is no more there
+        told(GREAT + "hedge at 3 4 east;gate at 4 4;guest at 4 4;");
+        Checker.lay(x, SQUARE + "hedge at 0 0 east;gate at 0 0;");
+        due("maze()", 3);
+        due("sides()", 4);
+        all(-2, "side(4, 0)", "what(4, 0)", "far(0, 4)", "gate(24)", "lawful(4, 1)", "lawful(0, 4)", "may(4, 1)",
+            "night(0, 4)", "night(39, 0)", "goes(0, 0)");
+        each("nth(#)", 1, 2, 3, NONE);
+        for (int none : new int[] {4, 5, 39, 40}) {
+            fill(0, 1, none);
+            due("nights(0)", -2);
+            due("out(0, 0, 1)", -5);
+        }
         // the empty tape, and one of blanks alone
         for (String blanks : new String[] {"", " ", "\n", " \n ".repeat(533)}) {
             told(RING);

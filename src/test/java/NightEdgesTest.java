@@ -241,6 +241,13 @@ public final class NightEdgesTest extends Sentences {
         told("maze wide 4 long 2;hedge at 0 0 east;wall at 1 0 south;wall at 2 0 south;");
         fill(0, 0, 9);
         due("nights(0)", 1);
+        // the other way round the ring, to its first side
+        told("maze wide 4 long 2;law near;hedge at 3 0 south;wall at 1 0 south;wall at 2 0 south;");
+        int[] back = {3, NONE, 2, -2, 1, -2, 0, 3, 2, 1};
+        for (int side = 0; side < 10; side++) {
+            fill(0, 0, side);
+            due("nights(0)", back[side]);
+        }
         told(HANDLES);
         fill(0, 0, 2);
         due("nights(0)", NONE);
@@ -403,6 +410,11 @@ public final class NightEdgesTest extends Sentences {
         told(RING);
         each("held(#, 1, 1)", 1, 0, 0, 1, 1, 0);
         each("held(#, 1, 2)", 1, 0, 0, 1, 1, 0);
+        // from 4 he goes to 5 and stays: the hedge that comes to side 4 must go from it again
+        each("held(#, 1, 3)", 1, 0, 0, 1, 0, 0);
+        each("held(#, 2, 2)", 1, 0, 0, 1, 0, 0);
+        // at 0 he makes the hedge go from side 0 to 2, at 1 from there
+        each("held(#, 2, 3)", 0, 0, 0, 0, 0, 0);
         each("held(#, 3, 1)", 1, 0, 0, 0, 0, 0);
         each("held(#, 3, 2)", 0, 0, 0, 0, 0, 0);
         each("held(#, 4, 1)", 0, 0, 0, 0, 0, 0);
@@ -423,6 +435,7 @@ public final class NightEdgesTest extends Sentences {
         told(RING);
         each("hold(#, 1)", -2, 3, 2, 1, 0, 0);
         each("hold(#, 2)", -2, 3, 2, 0, 0, 0);
+        each("hold(#, 3)", -2, 2, 0, 0, 0, 0);
         due("hold(99, 1)", 0);
         due("hold(99, 3)", 0);
         told(FIELD + "gate at 0 0;");

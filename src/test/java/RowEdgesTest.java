@@ -50,6 +50,10 @@ public final class RowEdgesTest extends Sentences {
         each("openings(#)", 6, NONE);
         told(SQUARE + "hedge at 0 0 south;");
         each("openings(#)", 1, NONE);
+        // two rings that are shut by sides of which one is numbered behind the other
+        told("maze wide 3 long 2;hedge at 2 0 south;hedge at 0 1 east;");
+        due("openings(NONE)", 2);
+        each("openings(#)", 4, 5, NONE);
         says("NONE: three do not, there are not so many; -2: what is less, there is no MAZE.");
         told(GREAT + "hedge at 0 4 east;hedge at 3 0 east;hedge at 0 0 south;hedge at 3 4 east;");
         due("openings(NONE)", NONE);
@@ -222,6 +226,9 @@ public final class RowEdgesTest extends Sentences {
         due("night(1, 5)", 0);
         due("keep(1)", 0);
         due("back(0)", 0);
+        due("night(0, 2)", 0);
+        due("night(2, 4)", 0);
+        due("night(4, 2)", 0);
         due("back(1)", 0);
         each("gone(#)", 1, 105, NONE);
         due("dawn()", 1);

@@ -269,6 +269,29 @@ public final class TermsTest extends Sentences {
         spoiltAt("maze wide 2 @2 long 2;", 1);
         spoiltAt("maze wide @1" + "0".repeat(1500) + " long 2;", 2);
         spoiltAt(SQUARE + "@gateat 0 0;", 1);
+        wordsNearly();
+    }
+
+    /** A word with another letter in one place, with one more or one less, is another word. */
+    private void wordsNearly() {
+        String line = "maze wide 3 long 2;wall at 0 0 east;hedge at 1 0 south;gate at 0 0;guest at 0 0;"
+            + "letter at 0 0;law near;";
+        reads(line, 7);
+        for (int i = 0; i < line.length(); i++) {
+            char sign = line.charAt(i);
+            if (sign < 'a' || sign > 'z') {
+                continue;
+            }
+            int start = i;
+            while (start > 0 && line.charAt(start - 1) >= 'a') {
+                start--;
+            }
+            for (String other : new String[] {"", "q", Character.toString(sign) + sign}) {
+                spoilt(line.substring(0, i) + other + line.substring(i + 1), 1, start);
+            }
+            char great = Character.toUpperCase(sign);
+            spoilt(line.substring(0, i) + great + line.substring(i + 1), 1, start);
+        }
     }
 
     private void faults() {

@@ -35,7 +35,9 @@ public final class LanguageTest {
         LanguageTest test = new LanguageTest();
         test.face();
         test.classes();
-        test.text(Files.readString(Path.of(args.length > 0 ? args[0] : "src/main/java/HedgeMaze.java")));
+        String text = Files.readString(Path.of(args.length > 0 ? args[0] : "src/main/java/HedgeMaze.java"));
+        test.text(text);
+        test.shownFace(text);
         test.check.finish("LanguageTest");
     }
 
@@ -76,6 +78,37 @@ public final class LanguageTest {
             check.holds(field + " is private, or NONE",
                 isNone ? Modifier.isPublic(field.getModifiers()) : Modifier.isPrivate(field.getModifiers()));
         }
+    }
+
+    /** Each line of the document's face stands in the class, and the class shows no other. */
+    private void shownFace(String text) throws IOException {
+        check.about("the face that the document shows");
+        Path shown = Path.of("../shared/DOC.md");
+        if (!Files.exists(shown)) {
+            return;
+        }
+        String document = Files.readString(shown);
+        int start = document.indexOf("```java");
+        check.holds("is there", start >= 0);
+        Set<String> due = declarations(document.substring(start, document.indexOf("```", start + 3)));
+        Set<String> found = declarations(text);
+        check.holds("the document shows members", due.size() > 40);
+        for (String line : due) {
+            check.holds("the class has: " + line, found.contains(line));
+        }
+        for (String line : found) {
+            check.holds("the document has: " + line, due.contains(line));
+        }
+    }
+
+    /** Lines that begin with public, without what ends them. */
+    private static Set<String> declarations(String text) {
+        Set<String> found = new TreeSet<>();
+        Matcher line = Pattern.compile("(?m)^ *(public [^;{\n]*?) *[;{]").matcher(text);
+        while (line.find()) {
+            found.add(line.group(1));
+        }
+        return found;
     }
 
     private static List<Class<?>> allClasses() {

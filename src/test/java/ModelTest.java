@@ -13,6 +13,8 @@ import java.util.Random;
 public final class ModelTest {
     private static final int RUNS = Integer.getInteger("runs", 240);
     private static final int TEXTS = Integer.getInteger("texts", 4000);
+    /** What an object is made for. */
+    private static final int MOST_CALLS = 512;
 
     /** Calls with the kinds of their arguments; the letters are those of argument(). */
     private static final String[] CALLS = {
@@ -218,6 +220,10 @@ public final class ModelTest {
                 call("end", 0);
             }
         }
+        while (calls < MOST_CALLS) {
+            callAny(CALLS, small);
+        }
+        check.due("calls of one object", calls, MOST_CALLS);
     }
 
     private void callAny(String[] from, boolean small) {
